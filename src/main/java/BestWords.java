@@ -726,7 +726,7 @@ public final class BestWords {
         }
 
         boolean isBefore(int one, int other) {
-            return scores[one] > scores[other] || scores[one] == scores[other] && one < other;
+            return scores[one] > scores[other] || (scores[one] == scores[other] && one < other);
         }
 
         int detail(int slot, int what) {
@@ -812,7 +812,7 @@ public final class BestWords {
             int kept = 0;
             for (int i = 0; i < count; i++) {
                 int meaning = book.meanings[slots[i]];
-                if (meaning == 0 || (seen >> meaning & 1) == 0) {
+                if (meaning == 0 || ((seen >> meaning) & 1) == 0) {
                     seen |= 1 << meaning;
                     slots[kept] = slots[i];
                     kept++;
