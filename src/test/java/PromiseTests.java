@@ -1,32 +1,5 @@
 /** For each promise of the document: ordinary calls, the edges that it names, wrong inputs. */
-public final class PromiseTests {
-    private static final int NONE = -1, BAD = -2, NO = -3, FULL = -4, FEWER = -5, BAD_PLACE = -10;
-    private static final int LEAST = Integer.MIN_VALUE, MOST = Integer.MAX_VALUE;
-    private static int wrong = 0;
-
-    private static void due(String call, long got, long want) {
-        if (got != want) {
-            wrong++;
-            System.out.println(call + " answered " + got + ", due is " + want);
-        }
-    }
-
-    private static void type(BestWords x, String word) {
-        x.clear();
-        for (int i = 0; i < word.length(); i++) x.type(word.charAt(i) - 'a');
-    }
-
-    private static int add(BestWords x, String word, int score, int meaning) {
-        type(x, word);
-        return x.adds(score, meaning);
-    }
-
-    private static int run(BestWords x, String text) {
-        x.erase();
-        for (int i = 0; i < text.length(); i++) x.write(text.charAt(i));
-        return x.runs();
-    }
-
+public final class PromiseTests extends Trial {
     // phrases of two letters, the i-th with the score i
     private static void addPairs(BestWords x, int many) {
         for (int i = 0; i < many; i++) add(x, "" + (char) ('a' + i / 8) + (char) ('a' + i % 8), i, 0);
@@ -806,7 +779,6 @@ public final class PromiseTests {
         runs();
         told();
         digest();
-        System.out.println(wrong == 0 ? "all promises are kept" : wrong + " answers are not as due");
-        if (wrong != 0) System.exit(1);
+        end();
     }
 }
