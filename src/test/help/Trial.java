@@ -193,6 +193,30 @@ class Trial {
         return 0;
     }
 
+    /** Both answer all questions about completions alike, whatever is typed. */
+    static void sameCompletions(String when, BestWords x, BestWords y, int... numbers) {
+        for (String typed : new String[] {"", "a", "ab", "b", "h", "hh"}) {
+            type(x, typed);
+            type(y, typed);
+            String how = when + ", '" + typed + "' TYPED, ";
+            for (int k = NONE; k <= 6; k++) {
+                due(how + "best(" + k + ")", x.best(k), y.best(k));
+                due(how + "near(" + k + ")", x.near(k), y.near(k));
+            }
+            due(how + "top()", x.top(), y.top());
+            due(how + "under()", x.under(), y.under());
+            due(how + "close()", x.close(), y.close());
+            due(how + "ahead()", x.ahead(), y.ahead());
+            due(how + "common()", x.common(), y.common());
+            due(how + "find()", x.find(), y.find());
+        }
+        due(when + ", saved()", x.saved(), y.saved());
+        for (int p : numbers) {
+            due(when + ", keys(" + p + ")", x.keys(p), y.keys(p));
+            due(when + ", twins(" + p + ")", x.twins(p), y.twins(p));
+        }
+    }
+
     static void bad(String call, ToLongFunction<BestWords> asked) {
         leaves(call, Trial::rich, asked, BAD, AS_BAD);
     }

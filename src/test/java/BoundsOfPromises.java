@@ -59,8 +59,18 @@ public final class BoundsOfPromises extends Trial {
         type(x, "abcdefghabcd");
         x.type(0);
         x.adds(0, 0);
+        x.slip(0);
         due("start", x.start(), 1);
         asAtFirst("one that was rich", x);
+        x = rich();
+        x.start();
+        sameCompletions("one that was rich", x, new BestWords());
+        x = rich();
+        x.start();
+        BestWords y = new BestWords();
+        add(x, "ab", 5, 3);
+        add(y, "ab", 5, 3);
+        sameCompletions("one that was rich, and has one", x, y, 0);
         x = written(given(200, "aaaaaaaaaaaa"), "x".repeat(120));
         due("start", x.start(), 1);
         asAtFirst("one that had all its NUMBERS", x);
@@ -276,6 +286,24 @@ public final class BoundsOfPromises extends Trial {
         due("the greatest SCORE", x.top(), 38);
     }
 
+    private static void nothingIsLeftOfOneDropped() {
+        String[] words = {"ab", "abc", "h", "ba", "hh"};
+        int[][] values = {{1000, 3}, {999, 3}, {1000, 0}, {500, 9}, {1000, 9}};
+        for (int gone = 0; gone < words.length; gone++) {
+            BestWords x = new BestWords();
+            BestWords y = new BestWords();
+            for (int i = 0; i < words.length; i++) {
+                add(x, words[i], values[i][0], values[i][1]);
+                add(y, i == gone ? "ggggg" : words[i], i == gone ? 0 : values[i][0], i == gone ? 0 : values[i][1]);
+            }
+            x.drop(gone);
+            y.drop(gone);
+            int[] left = new int[words.length - 1];
+            for (int i = 0; i < left.length; i++) left[i] = i < gone ? i : i + 1;
+            sameCompletions("without " + words[gone], x, y, left);
+        }
+    }
+
     private static void rank() {
         for (int kind = 0; kind <= 4; kind++) {
             int k = kind;
@@ -319,10 +347,13 @@ public final class BoundsOfPromises extends Trial {
         int[][] wrong = {{-1, 1}, {1000000, 1}, {0, 0}, {0, 10}, {0, -1}, {LEAST, 1}, {MOST, 1}, {0, LEAST}, {0, MOST}};
         for (int[] w : wrong) bad("draw(" + w[0] + ", " + w[1] + ")", x -> x.draw(w[0], w[1]));
         for (int seed : new int[] {0, 1, 999998, 999999}) for (int n = 1; n <= 9; n++) drawsAsTold(new BestWords(), seed, n);
+        marks("draw", Trial::rich, x -> x.draw(0, 1), 1);
+    }
+
+    private static void drawnOnesCome() {
         for (int seed = 0; seed < 300; seed++) drawsAsTold(rich(), seed, 9);
         for (int many = 31; many <= 40; many++) drawsAsTold(pairs(many, "abc"), 4321, 9);
         for (int many = 196; many <= 200; many++) drawsAsTold(given(many, ""), 4321, 9);
-        marks("draw", Trial::rich, x -> x.draw(0, 1), 1);
         marks("draw of which none comes", BoundsOfPromises::drawnAlready, x -> x.draw(0, 1), 0);
         BestWords full = pairs(40, "aa");
         due("none comes in a full one", full.draw(0, 9), 0);
@@ -508,6 +539,13 @@ public final class BoundsOfPromises extends Trial {
         due("LETTER 0", x.ahead(), 0);
         type(x, "");
         due("the first one of all", x.ahead(), 0);
+        x.drop(3);
+        type(x, "a");
+        due("the last one is gone", x.ahead(), 1);
+        x.start();
+        add(x, "ah", 3, 0);
+        type(x, "a");
+        due("one alone", x.ahead(), 7);
     }
 
     private static void common() {
@@ -674,6 +712,16 @@ public final class BoundsOfPromises extends Trial {
         leaves("a FAULT at 119", () -> written(rich(), " ".repeat(119) + ";"), y -> y.runs(), -129, UNCOUNTED);
     }
 
+    private static void notPassedOver() {
+        due("none of one", run(rich(), "use a;"), 0);
+        due("one of one", run(rich(), "use b;"), 1);
+        due("none of 20", run(rich(), "use a;".repeat(20)), 0);
+        due("20 of 20", run(rich(), "use b;".repeat(20)), 20);
+        due("one of 15: it is gone then", run(rich(), "drop ab;".repeat(15)), 1);
+        due("one of 12: it is there then", run(rich(), "add c 1 1;".repeat(12)), 1);
+        due("24 of 24", run(rich(), "fade;".repeat(24)), 24);
+    }
+
     private static void told() {
         int[] v = {5, 6, 2, 3, 40, 2, 11, 6, 0, 0, 0};
         for (int what = 0; what <= 10; what++) {
@@ -738,10 +786,12 @@ public final class BoundsOfPromises extends Trial {
         promise(10, "THE CLOCK is 1 more (9999 at most)", BoundsOfPromises::clockAtItsEnd);
         promise(11, "SCORE of a PHRASE: what it was. U. BAD.", BoundsOfPromises::score);
         promise(12, "A PHRASE is gone: its SCORE. U. BAD.", BoundsOfPromises::drop);
+        promise(12, "A PHRASE is gone", BoundsOfPromises::nothingIsLeftOfOneDropped);
         promise(13, "THE RANKER's KIND: what it was. U. BAD.", BoundsOfPromises::rank);
         promise(14, "SLIP: what it was. U. BAD.", BoundsOfPromises::slip);
         promise(15, "Each SCORE becomes half (cut): how many PHRASES there are. U.", BoundsOfPromises::fades);
         promise(16, "n times (1 .. 9) by DRAWS", BoundsOfPromises::draw);
+        promise(16, "it comes as by adds() (TYPED stays), or, if that can not be, not: how many came. U. BAD.", BoundsOfPromises::drawnOnesCome);
         promise(17, "UNDO: how many more may be. NO: none may be.", BoundsOfPromises::undo);
     }
 
@@ -760,6 +810,7 @@ public final class BoundsOfPromises extends Trial {
         promise(29, "How many LETTERS two PHRASES have alike at first. BAD.", BoundsOfPromises::alike);
         promise(30, "A byte (0 .. 127) comes behind THE TEXT: how many it has. BAD; FULL: 120.", BoundsOfPromises::write);
         promise(31, "THE TEXT is empty: how many it had.", BoundsOfPromises::erase);
+        promise(32, "ORDERS are done: how many were not passed over.", BoundsOfPromises::notPassedOver);
         promise(32, "U (one for all, if there is no FAULT). -10 less the FAULT.", BoundsOfPromises::runs);
         promise(33, "8 refused as BAD, 9 as NO, 10 as FULL. BAD.", BoundsOfPromises::told);
         promise(34, "h = 2003; then h = 31 h + v for each v", BoundsOfPromises::digest);

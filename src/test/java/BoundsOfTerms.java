@@ -1,4 +1,5 @@
 import java.math.BigInteger;
+import java.util.function.ToLongFunction;
 
 /** Each sentence under "Terms" that names a bound: the last value that is allowed, the first that is not, empty and full. */
 public final class BoundsOfTerms extends Trial {
@@ -190,6 +191,11 @@ public final class BoundsOfTerms extends Trial {
         add(x, "aaaaaaaa", 1, 0);
         due("USES of a new one", x.of(3, 3), 0);
         due("LAST of a new one", x.of(3, 4), NONE);
+        x.use(3);
+        x.drop(3);
+        add(x, "aaaaaaaa", 1, 0);
+        due("USES of one in the place of the last one", x.of(4, 3), 0);
+        due("LAST of one in the place of the last one", x.of(4, 4), NONE);
     }
 
     private static void clockAtFirst() {
@@ -438,6 +444,23 @@ public final class BoundsOfTerms extends Trial {
         x.score(0, 0);
         int[] w = {2, 1, 3, 0};
         for (int k = 0; k < 4; k++) due("best(" + k + ")", x.best(k), w[k]);
+    }
+
+    private static void bestByScore() {
+        BestWords x = new BestWords();
+        add(x, "a", 0, 0);
+        add(x, "b", 1000, 0);
+        add(x, "ab", 1000, 0);
+        add(x, "ah", 1, 0);
+        for (int slip : new int[] {0, 1000}) {
+            x.slip(slip);
+            type(x, "a");
+            int[] v = {2, 3, 0, FEWER};
+            for (int k = 0; k < v.length; k++) due("a TYPED, SLIP " + slip + ", best(" + k + ")", x.best(k), v[k]);
+            type(x, "");
+            int[] w = {1, 2, 3, 0, FEWER};
+            for (int k = 0; k < w.length; k++) due("none TYPED, SLIP " + slip + ", best(" + k + ")", x.best(k), w[k]);
+        }
     }
 
     private static void toldOfAMeaning() {
@@ -755,6 +778,44 @@ public final class BoundsOfTerms extends Trial {
 
     // ---- undo, draws, how calls are refused
 
+    private static void known(String call, ToLongFunction<BestWords> asked, int more) {
+        BestWords x = richTyped("aab");
+        write(x, "fade;");
+        int before = x.told(6);
+        asked.applyAsLong(x);
+        due(call + ", then told(6)", x.told(6) - before, more);
+    }
+
+    private static void whichAreKnown() {
+        known("adds", x -> x.adds(1, 1), 1);
+        known("use", x -> x.use(0), 1);
+        known("score", x -> x.score(0, 1), 1);
+        known("drop", x -> x.drop(0), 1);
+        known("rank", x -> x.rank(1), 1);
+        known("slip", x -> x.slip(1), 1);
+        known("fades", x -> x.fades(), 1);
+        known("draw", x -> x.draw(1, 1), 1);
+        known("runs", x -> x.runs(), 1);
+        known("adds, BAD", x -> x.adds(1001, 1), 0);
+        known("use, BAD", x -> x.use(2), 0);
+        known("score, BAD", x -> x.score(0, 1001), 0);
+        known("drop, BAD", x -> x.drop(2), 0);
+        known("rank, BAD", x -> x.rank(5), 0);
+        known("slip, BAD", x -> x.slip(1001), 0);
+        known("draw, BAD", x -> x.draw(1, 10), 0);
+        known("adds, NO", x -> x.clear() + x.adds(1, 1), 0);
+        known("runs, a FAULT", x -> x.erase() + x.runs(), 0);
+        known("type", x -> x.type(1), 0);
+        known("rub", x -> x.rub(), 0);
+        known("types", x -> x.types(0, 1), 0);
+        known("clear", x -> x.clear(), 0);
+        known("write", x -> x.write(32), 0);
+        known("erase", x -> x.erase(), 0);
+        known("undo", x -> x.undo(), -1);
+        known("use and undo", x -> x.use(0) + x.undo(), 0);
+        known("start", x -> x.start(), -11);
+    }
+
     private static void twelveAreKnown() {
         for (int marks : new int[] {0, 1, 11, 12, 13, 14, 24, 25, 30}) {
             BestWords x = new BestWords();
@@ -815,6 +876,17 @@ public final class BoundsOfTerms extends Trial {
         due("SLIP", x.told(4), 40);
         x.use(0);
         due("LAST of the next one", x.of(0, 4), 5);
+    }
+
+    private static void nothingIsLeftOfIt() {
+        String[] texts = {"add hh 1000 3;use hh;", "drop ab;", "add hh 1000 0;drop abc;add a 1000 9;", "fade;slip 0;"};
+        for (String text : texts) {
+            BestWords x = rich();
+            due(text, x.runs() + run(x, text), 1 + text.split(";").length);
+            x.undo();
+            x.undo();
+            sameCompletions(text + " and undo()", x, rich(), RICH_NUMBERS);
+        }
     }
 
     private static void clockRunsOn() {
@@ -961,6 +1033,7 @@ public final class BoundsOfTerms extends Trial {
         sentence("one fewer", BoundsOfTerms::closeByOneFewer);
         sentence("or one in place of another.", BoundsOfTerms::closeByAnother);
         sentence("a greater one ahead, of like ones the lesser NUMBER.", BoundsOfTerms::order);
+        sentence("BEST: those that BEGIN so, RANK being SCORE.", BoundsOfTerms::bestByScore);
         sentence("Of PHRASES alike in MEANING (but 0) just the first in ORDER is TOLD.", BoundsOfTerms::toldOfAMeaning);
         sentence("NEAR: those that BEGIN so, RANK being SCORE, and those that are CLOSE", BoundsOfTerms::nearOrder);
         sentence("RANK being SCORE less SLIP", BoundsOfTerms::nearBelowNothing);
@@ -983,9 +1056,11 @@ public final class BoundsOfTerms extends Trial {
     }
 
     private static void sentencesOfTheRest() {
+        sentence("the last call that is marked U, if it was not refused", BoundsOfTerms::whichAreKnown);
         sentence("(12 at most are known)", BoundsOfTerms::twelveAreKnown);
         sentence("(12 at most are known)", BoundsOfTerms::undoneAndMarkedInTurns);
         sentence("PHRASES with all that is told of them, how many NUMBERS were given, THE RANKER, SLIP as ahead of the last call", BoundsOfTerms::asAheadOfTheLast);
+        sentence("PHRASES with all that is told of them", BoundsOfTerms::nothingIsLeftOfIt);
         sentence("THE CLOCK runs on, TYPED stays.", BoundsOfTerms::clockRunsOn);
         sentence("DRAWS by a SEED (0 .. 999999)", BoundsOfTerms::seeds);
         sentence("X becomes X times 1103515245 and 12345, by 2147483648 what is left over.", BoundsOfTerms::drawnOnes);
