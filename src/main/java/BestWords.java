@@ -858,22 +858,22 @@ public final class BestWords {
             place = 0;
             fault = NONE;
             boolean more = true;
-            while (more && fault == NONE && count < MOST_ORDERS) {
-                readOrder();
+            for (int i = 0; i < MOST_ORDERS && more && fault == NONE; i++) {
+                readOrder(i);
+                count = i + 1;
                 skipBlanks();
                 more = place < length;
             }
             return fault;
         }
 
-        private void readOrder() {
+        private void readOrder(int i) {
             int verb = readVerb();
-            verbs[count] = verb;
-            words[count] = hasWord(verb) ? readWord() : 0L;
-            firsts[count] = hasNumber(verb) ? readNumber(mostNumber(verb)) : 0;
-            seconds[count] = verb == ADD ? readNumber(MOST_MEANING) : 0;
+            verbs[i] = verb;
+            words[i] = hasWord(verb) ? readWord() : 0L;
+            firsts[i] = hasNumber(verb) ? readNumber(mostNumber(verb)) : 0;
+            seconds[i] = verb == ADD ? readNumber(MOST_MEANING) : 0;
             readEnd();
-            count++;
         }
 
         private static boolean hasWord(int verb) {

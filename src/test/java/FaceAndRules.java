@@ -4,12 +4,17 @@ import java.lang.reflect.Method;
 import java.lang.reflect.Modifier;
 import java.nio.file.Files;
 import java.nio.file.Path;
+import java.util.ArrayDeque;
 import java.util.Arrays;
+import java.util.Deque;
 import java.util.IdentityHashMap;
 import java.util.List;
 import java.util.Map;
 import java.util.Set;
+import java.util.TreeMap;
 import java.util.TreeSet;
+import java.util.regex.Matcher;
+import java.util.regex.Pattern;
 
 /** The face is the document's, the file keeps to what can be seen of LANGUAGE.md, and an object is small. */
 public final class FaceAndRules {
@@ -21,6 +26,14 @@ public final class FaceAndRules {
         "int twins(int)", "int alike(int,int)", "int write(int)", "int erase()", "int runs()", "int told(int)", "long digest()"};
     private static final List<String> FORBIDDEN = List.of("throw", "throws", "try", "catch", "finally", "synchronized", "assert",
         "import", "package", "instanceof", "protected", "native", "volatile", "transient", "goto", "Object", "System", "Thread");
+    // of rule 4 what the class uses, and what is near to it
+    private static final Set<String> LIBRARY = Set.of("max", "min", "abs", "numberOfLeadingZeros", "numberOfTrailingZeros",
+        "bitCount", "length", "charAt");
+    private static final Pattern METHOD = Pattern.compile("(?m)^ +(?:(?:public|private|static|final) )*(?:[\\w\\[\\]]+ )?(\\w+)\\([^()]*\\) (?=\\{)");
+    private static final Pattern CALL = Pattern.compile("(\\w+)\\(");
+    private static final Pattern STEP = Pattern.compile("(\\w+)(?:\\+\\+|--)");
+    private static final Set<String> NO_CALLS = Set.of("if", "for", "while", "switch", "return");
+    private static final int DEEPEST = 8;
     private static int wrong = 0;
 
     private static void check(boolean right, String what) {
@@ -61,16 +74,21 @@ public final class FaceAndRules {
     private static void checkClasses() {
         Class<?>[] inside = BestWords.class.getDeclaredClasses();
         check(inside.length <= 11, "too many classes");
+        checkSizes(BestWords.class);
         for (Class<?> c : inside) {
             check(Modifier.isStatic(c.getModifiers()) && !Modifier.isPublic(c.getModifiers()), "class " + c);
-            int fields = 0;
-            for (Field f : c.getDeclaredFields()) {
-                if (!Modifier.isStatic(f.getModifiers())) fields++;
-                else check(Modifier.isFinal(f.getModifiers()), "static field " + f);
-            }
-            check(fields <= 20, "too many fields in " + c);
-            for (Method m : c.getDeclaredMethods()) check(m.getParameterCount() <= 7, "too many parameters: " + m);
+            checkSizes(c);
         }
+    }
+
+    private static void checkSizes(Class<?> c) {
+        int fields = 0;
+        for (Field f : c.getDeclaredFields()) {
+            if (!Modifier.isStatic(f.getModifiers())) fields++;
+            else check(Modifier.isFinal(f.getModifiers()), "static field " + f);
+        }
+        check(fields <= 20, "too many fields in " + c);
+        for (Method m : c.getDeclaredMethods()) check(m.getParameterCount() <= 7, "too many parameters: " + m);
     }
 
     private static void checkSource() throws Exception {
@@ -80,6 +98,73 @@ public final class FaceAndRules {
         for (String word : code.split("[^A-Za-z0-9_]+")) check(!FORBIDDEN.contains(word), "forbidden: " + word);
         check(!code.contains("->") && !code.contains("::"), "a lambda or method reference");
         checkLengths(source);
+        checkLoops(code);
+        checkCalls(code);
+    }
+
+    /** From the opening sign at this place to the one that closes it, both left out. */
+    private static String within(String code, int from) {
+        char open = code.charAt(from);
+        char close = open == '(' ? ')' : '}';
+        int depth = 0;
+        for (int i = from; i < code.length(); i++) {
+            if (code.charAt(i) == open) depth++;
+            if (code.charAt(i) == close && --depth == 0) return code.substring(from + 1, i);
+        }
+        return code.substring(from + 1);
+    }
+
+    /** Something that is one more, or one less, each time stands in the loop's condition. */
+    private static boolean steps(String change, String condition) {
+        Matcher step = STEP.matcher(change);
+        while (step.find()) if (condition.matches("(?s).*\\b" + step.group(1) + "\\b.*")) return true;
+        return false;
+    }
+
+    // rule 9: the end is seen from the loop's own lines, so a counter that another method moves is none
+    private static void checkLoops(String code) {
+        Matcher loop = Pattern.compile("\\b(for|while|do)\\b").matcher(code);
+        while (loop.find()) {
+            int head = code.indexOf('(', loop.start());
+            String condition = within(code, head);
+            int body = code.indexOf('{', head + condition.length());
+            String[] parts = condition.split(";");
+            boolean ends = loop.group().equals("for") ? parts.length == 3 && steps(parts[2], parts[1])
+                : loop.group().equals("while") && steps(within(code, body), condition);
+            check(ends, "a loop whose end is not seen from its own lines: " + loop.group() + " (" + condition + ")");
+        }
+    }
+
+    // rules 8 and 11: no recursion is used, and calls go eight deep at most
+    private static void checkCalls(String code) {
+        Map<String, Set<String>> called = new TreeMap<>();
+        Matcher method = METHOD.matcher(code);
+        while (method.find()) {
+            if (NO_CALLS.contains(method.group(1))) continue;
+            Set<String> names = called.computeIfAbsent(method.group(1), name -> new TreeSet<>());
+            Matcher call = CALL.matcher(within(code, method.end()));
+            while (call.find()) if (!NO_CALLS.contains(call.group(1))) names.add(call.group(1));
+        }
+        for (String f : FACE) {
+            String name = f.substring(f.indexOf(' ') + 1, f.indexOf('('));
+            check(called.containsKey(name), "no method is read: " + name);
+            int deep = depth(name, called, new ArrayDeque<>());
+            check(deep <= DEEPEST, name + "() goes " + deep + " deep");
+        }
+    }
+
+    private static int depth(String name, Map<String, Set<String>> called, Deque<String> open) {
+        if (!called.containsKey(name)) {
+            check(LIBRARY.contains(name), "a call of the library: " + name);
+            return 1;
+        }
+        check(!open.contains(name), "a recursion: " + open + " " + name);
+        if (open.contains(name)) return 1;
+        open.addLast(name);
+        int deepest = 0;
+        for (String next : called.get(name)) deepest = Math.max(deepest, depth(next, called, open));
+        open.removeLast();
+        return deepest + 1;
     }
 
     private static void checkLengths(String source) {
